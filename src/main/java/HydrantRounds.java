@@ -203,7 +203,9 @@ public final class HydrantRounds {
 
     public int round(int crew, int place) throws IndexOutOfBoundsException, IllegalArgumentException {
         requireIndex(crew, CREWS);
-        requireRange(place, 0, Integer.MAX_VALUE);
+        if (place < 0) {
+            throw new IllegalArgumentException("no such place");
+        }
         return now.tours[crew].at(place);
     }
 
@@ -263,12 +265,12 @@ public final class HydrantRounds {
 
     public int bestStreet() {
         int best = NONE;
-        int fewest = Integer.MAX_VALUE;
+        int fewest = 0;
         for (int street = 0; street < STREETS; street++) {
             trial.copyFrom(now);
             trial.flushOnly(street);
             int complaints = hour.playMany(trial, BEST_STREET_HOURS);
-            if (complaints < fewest) {
+            if (best == NONE || complaints < fewest) {
                 fewest = complaints;
                 best = street;
             }

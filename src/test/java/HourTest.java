@@ -119,6 +119,14 @@ final class HourTest {
         x.skip(2);
         x.pass(1);
         Check.same("resting is no waiting", 2, x.count(5));
+        HydrantRounds y = new HydrantRounds();
+        y.dirt(4, 999);
+        y.send(0, 5);
+        y.pressure(2, 0);
+        y.send(1, 8);
+        y.send(2, 0);
+        y.pass(3);
+        Check.same("for brown water and for pressure", 6, y.count(5));
     }
 
     private static void takesTheStreetOutWhateverFollows() {

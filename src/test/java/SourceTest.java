@@ -28,6 +28,7 @@ final class SourceTest {
     private static final String[] NEVER = {"->", "::", "\\btry\\b", "\\bcatch\\b", "\\bfinally\\b", "\\bsynchronized\\b",
         "\\bassert\\b", "\\bstatic\\s*\\{", "\\binstanceof\\b", "Exact\\b", "\\bSystem\\.(?!arraycopy\\b)",
         "\\bDouble\\b", "\\bvar\\b", "\\bThread\\b", "\\brandom\\b", "\\bhashCode\\b", "\\btoString\\b", "\\bpackage\\b",
+        "_VALUE\\b",
         "while \\(true\\)", "for \\(;;\\)"};
     private static final long ROOM_OF_A_RUN = 64 * 1024;
 

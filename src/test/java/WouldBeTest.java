@@ -220,6 +220,10 @@ final class WouldBeTest {
         x.valve(0, false);
         Check.same("the zone ahead has enough", 25, x.leastPressure(8));
         x.valve(0, true);
+        x.pressure(0, 27);
+        x.send(0, 0);
+        Check.same("crew 0 would work", 0, x.waits(0));
+        Check.same("but no hydrant is open ahead", 25, x.leastPressure(4));
         x.pressure(0, 0);
         x.set(1, 0);
         Check.same("no pressure is needed", 0, x.leastPressure(8));
