@@ -6,8 +6,18 @@ final class Check {
 
     private static int checks = 0;
     private static int wrong = 0;
+    private static String about = "";
 
     private Check() {
+    }
+
+    /** What is told ahead of each check that fails from now on. */
+    static void about(String text) {
+        about = text;
+    }
+
+    static int made() {
+        return checks;
     }
 
     static void same(String what, long due, long got) {
@@ -27,6 +37,20 @@ final class Check {
         long before = x.digest();
         told(due == thrownBy(call), what + " threw " + thrownBy(call) + ", due is " + due);
         told(before == x.digest(), what + " changed something");
+    }
+
+    static void refusesEach(HydrantRounds x, String what, Class<? extends RuntimeException> due, Edge.Call call,
+            int... values) {
+        for (int value : values) {
+            refuses(x, what + " " + value, due, () -> call.on(x, value));
+        }
+    }
+
+    /** The dirt of the streets from 0 on; the others are not looked at. */
+    static void dirts(String what, HydrantRounds x, int... due) {
+        for (int street = 0; street < due.length; street++) {
+            same(what + ": dirt of " + street, due[street], x.street(street, 0));
+        }
     }
 
     static Class<?> thrownBy(Call call) {
@@ -65,7 +89,7 @@ final class Check {
         checks++;
         if (!right) {
             wrong++;
-            System.out.println("WRONG: " + message);
+            System.out.println("WRONG: " + about + message);
         }
     }
 }

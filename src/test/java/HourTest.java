@@ -18,18 +18,12 @@ final class HourTest {
         Check.ends("HourTest");
     }
 
-    private static void dirts(String what, HydrantRounds x, int... due) {
-        for (int street = 0; street < due.length; street++) {
-            Check.same(what + ": dirt of " + street, due[street], x.street(street, 0));
-        }
-    }
-
     private static void opensAndFlushes() {
         HydrantRounds x = new HydrantRounds();
         x.dirt(0, 100);
         x.send(0, 0);
         Check.same("pass(1)", 1, x.pass(1));
-        dirts("30 times 2 flushed", x, 41, 1, 1, 1, 1);
+        Check.dirts("30 times 2 flushed", x, 41, 1, 1, 1, 1);
         Check.same("flushed of 0", 60, x.street(0, 6));
         Check.same("hours open of 0", 1, x.street(0, 7));
         Check.same("it stays in the round", 0, x.round(0, 0));
@@ -137,7 +131,7 @@ final class HourTest {
         x.send(0, 1);
         x.send(0, 1);
         x.pass(1);
-        dirts("flushed to 0, then dirt comes", x, 38, 22, 20, 20);
+        Check.dirts("flushed to 0, then dirt comes", x, 38, 22, 20, 20);
         Check.same("flushed of 1", 5, x.street(1, 6));
         Check.same("one is out", 1, x.count(6));
         HydrantRounds y = new HydrantRounds();
@@ -174,13 +168,13 @@ final class HourTest {
         x.dirt(1, 99);
         x.dirt(2, 9);
         x.pass(1);
-        dirts("a tenth goes on", x, 90, 99, 18, 0);
+        Check.dirts("a tenth goes on", x, 90, 99, 18, 0);
         HydrantRounds y = new HydrantRounds();
         y.dirt(0, 20);
         y.dirt(1, 100);
         y.send(0, 1);
         y.pass(1);
-        dirts("an open hydrant sends nothing, but gets some", y, 19, 45, 1, 1);
+        Check.dirts("an open hydrant sends nothing, but gets some", y, 19, 45, 1, 1);
     }
 
     private static void carriesThroughOpenValvesAlone() {
@@ -190,15 +184,15 @@ final class HourTest {
         x.dirt(7, 100);
         x.dirt(11, 100);
         x.pass(1);
-        dirts("both shut", x, 0, 0, 0, 100, 0, 0, 0, 100, 0, 0, 0, 100);
+        Check.dirts("both shut", x, 0, 0, 0, 100, 0, 0, 0, 100, 0, 0, 0, 100);
         x.valve(0, true);
         x.pass(1);
-        dirts("valve 0 open", x, 0, 0, 0, 90, 10, 0, 0, 100, 0, 0, 0, 100);
+        Check.dirts("valve 0 open", x, 0, 0, 0, 90, 10, 0, 0, 100, 0, 0, 0, 100);
         x.valve(0, false);
         x.valve(1, true);
         x.dirt(4, 0);
         x.pass(1);
-        dirts("valve 1 open", x, 0, 0, 0, 90, 0, 0, 0, 90, 10, 0, 0, 100);
+        Check.dirts("valve 1 open", x, 0, 0, 0, 90, 0, 0, 0, 90, 10, 0, 0, 100);
     }
 
     private static void losesWhatIsAboveTheLimit() {
@@ -207,7 +201,7 @@ final class HourTest {
         x.dirt(2, 999);
         x.dirt(3, 990);
         x.pass(1);
-        dirts("990 + 99 + 20", x, 20, 20, 920, 999);
+        Check.dirts("990 + 99 + 20", x, 20, 20, 920, 999);
         Check.same("lost", 110, x.count(7));
         x.set(3, 0);
         x.pass(1);

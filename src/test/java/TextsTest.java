@@ -12,12 +12,6 @@ final class TextsTest {
         Check.ends("TextsTest");
     }
 
-    private static HydrantRounds typed(String text) {
-        HydrantRounds x = new HydrantRounds();
-        Check.type(x, text);
-        return x;
-    }
-
     /** Promise 10. */
     private static void append() {
         HydrantRounds x = new HydrantRounds();
@@ -36,7 +30,7 @@ final class TextsTest {
 
     /** Promise 11. */
     private static void clearBuffer() {
-        HydrantRounds x = typed("a0;;");
+        HydrantRounds x = Sample.typed("a0;;");
         Check.same("clearBuffer()", 4, x.clearBuffer());
         Check.same("clearBuffer() again", 0, x.clearBuffer());
         Check.same("append", 1, x.append('a'));
@@ -45,7 +39,7 @@ final class TextsTest {
     }
 
     private static void errorAt(String text, int due) {
-        Check.same("firstError of " + text, due, typed(text).firstError());
+        Check.same("firstError of " + text, due, Sample.typed(text).firstError());
     }
 
     /** Promise 12. */
@@ -89,7 +83,7 @@ final class TextsTest {
         errorAt("a0,1,2,3,4;b0,1,2,3,4;c0,1,2,3,4,5,6,7;a0,1,2,3,4,5,6,7", 55);
         errorAt("a10,11,10,11,10,11,10,11;b10,11,10,11,10,11,10,11;c10,11,10,", 60);
         errorAt("a10,11,10,11,10,11,10,11;b10,11,10,11,10,11,10,11;a;c0,0,0,0", 51);
-        HydrantRounds x = typed("a0,1");
+        HydrantRounds x = Sample.typed("a0,1");
         x.firstError();
         Check.same("firstError changes nothing", 4, x.clearBuffer());
     }
@@ -139,14 +133,14 @@ final class TextsTest {
         String[] texts = {"", "a", "a0,", "a0;", "a0;b", "a0;b1,", "d0", "a12", "a00", "a1,2,3,4,5,6,7,8,9", "a0b1", "x",
             "a0;x", ";a0", ",", "a0;b0,1;;c1"};
         for (String text : texts) {
-            HydrantRounds x = typed(text);
+            HydrantRounds x = Sample.typed(text);
             x.send(0, 4);
             Check.refuses(x, "rounds of " + text, IllegalArgumentException.class, x::rounds);
             Check.same("the buffer stays", text.length(), x.clearBuffer());
             Check.same("the round stays", 4, x.round(0, 0));
         }
         for (String text : new String[] {"a1", "b0", "c11", "a0,0,0,0,0,0,0,0", "a1,1,1,1,1,1,1,1"}) {
-            Check.same("rounds of " + text, text.length() > 3 ? 8 : 1, typed(text).rounds());
+            Check.same("rounds of " + text, text.length() > 3 ? 8 : 1, Sample.typed(text).rounds());
         }
     }
 

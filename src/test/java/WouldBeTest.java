@@ -247,10 +247,10 @@ final class WouldBeTest {
     /** Promise 25. */
     private static void digest() {
         HydrantRounds x = new HydrantRounds();
-        Check.same("digest of a new one", hash(x, "", new int[] {40, 40, 40, 0, 0}, new boolean[12]), x.digest());
+        Check.same("digest of a new one", Hash.of(x, "", new int[] {40, 40, 40, 0, 0}, new boolean[12]), x.digest());
         for (int brown = 0; brown < 12; brown++) {
             x.dirt(brown, 500);
-            long due = hash(x, "", new int[] {40, 40, 40, 0, 0}, new boolean[12]);
+            long due = Hash.of(x, "", new int[] {40, 40, 40, 0, 0}, new boolean[12]);
             Check.same("digest with " + brown, due, x.digest());
         }
         x.pass(2);
@@ -264,50 +264,9 @@ final class WouldBeTest {
         Check.type(x, "a1~!");
         boolean[] wasBrown = new boolean[12];
         java.util.Arrays.fill(wasBrown, true);
-        Check.same("digest", hash(x, "a1~!", new int[] {31, 40, 99, 0, 1}, wasBrown), x.digest());
+        Check.same("digest", Hash.of(x, "a1~!", new int[] {31, 40, 99, 0, 1}, wasBrown), x.digest());
         Check.same("digest changes nothing", x.digest(), x.digest());
         x.clearBuffer();
-        Check.same("digest", hash(x, "", new int[] {31, 40, 99, 0, 1}, wasBrown), x.digest());
-    }
-
-    private static long hash(HydrantRounds x, String buffer, int[] zones, boolean[] wasBrown) {
-        java.util.List<Long> values = new java.util.ArrayList<>();
-        for (int what = 0; what <= 8; what++) {
-            values.add((long) x.count(what));
-        }
-        for (int setting = 0; setting < 4; setting++) {
-            values.add((long) x.setting(setting));
-        }
-        for (int zone : zones) {
-            values.add((long) zone);
-        }
-        for (int street = 0; street < 12; street++) {
-            for (int what = 0; what < 8; what++) {
-                values.add((long) x.street(street, what));
-            }
-            values.add(wasBrown[street] ? 1L : 0L);
-            values.add((long) x.leastPressure(street));
-        }
-        for (int crew = 0; crew < 3; crew++) {
-            values.add((long) x.waits(crew));
-            for (int place = 0; x.round(crew, place) != -1; place++) {
-                values.add((long) x.round(crew, place));
-            }
-        }
-        for (int what = 0; what < 4; what++) {
-            values.add((long) x.ifPassed(6, what));
-        }
-        values.add((long) x.bestStreet());
-        values.add((long) x.clearIn());
-        values.add(Double.doubleToLongBits(x.cleanShare()));
-        values.add((long) buffer.length());
-        for (char c : buffer.toCharArray()) {
-            values.add((long) c);
-        }
-        long hash = 3169;
-        for (long value : values) {
-            hash = 31 * hash + value;
-        }
-        return hash;
+        Check.same("digest", Hash.of(x, "", new int[] {31, 40, 99, 0, 1}, wasBrown), x.digest());
     }
 }
