@@ -30,6 +30,11 @@ final class SourceTest {
         "\\bDouble\\b", "\\bvar\\b", "\\bThread\\b", "\\brandom\\b", "\\bhashCode\\b", "\\btoString\\b", "\\bpackage\\b",
         "_VALUE\\b",
         "while \\(true\\)", "for \\(;;\\)"};
+    private static final Pattern METHOD = Pattern.compile("(?ms)^( {4}| {8})(?! )([^\n;=]*\\)[^\n;=]*\\{)\n(.*?)^\\1\\}$");
+    private static final int MOST_LINES = 60;
+    private static final int MOST_PARAMETERS = 7;
+    private static final int MOST_CLASSES = 12;
+    private static final int MOST_FIELDS = 20;
     private static final long ROOM_OF_A_RUN = 64 * 1024;
 
     public static void main(String[] args) throws IOException {
@@ -64,6 +69,7 @@ final class SourceTest {
         for (Method method : HydrantRounds.class.getMethods()) {
             names.add(method.getName());
         }
+        Check.isTrue("up to twelve classes", HydrantRounds.class.getDeclaredClasses().length < MOST_CLASSES);
         for (Class<?> inside : HydrantRounds.class.getDeclaredClasses()) {
             Check.isTrue(inside + " is static", Modifier.isStatic(inside.getModifiers()));
             Check.isTrue(inside + " is not public", !Modifier.isPublic(inside.getModifiers()));
@@ -73,9 +79,10 @@ final class SourceTest {
                 Check.isTrue(field + " is final", !Modifier.isStatic(field.getModifiers())
                     || Modifier.isFinal(field.getModifiers()));
             }
-            Check.isTrue(inside + " has up to twenty fields", fields <= 20);
+            Check.isTrue(inside + " has up to twenty fields", fields <= MOST_FIELDS);
             for (Method method : inside.getDeclaredMethods()) {
                 Check.isTrue(method + " bears the name of a public one", !names.contains(method.getName()));
+                Check.isTrue(method + " has too many parameters", method.getParameterCount() <= MOST_PARAMETERS);
             }
         }
     }
@@ -103,6 +110,12 @@ final class SourceTest {
             Matcher found = Pattern.compile(never).matcher(code);
             Check.isTrue("the source has " + never, !found.find());
         }
+        Matcher method = METHOD.matcher(code);
+        int methods = 0;
+        for (; method.find(); methods++) {
+            Check.isTrue("too long: " + method.group(2), method.group(3).lines().count() <= MOST_LINES);
+        }
+        Check.isTrue("methods were found in the source: " + methods, methods >= FACE.length);
         Matcher imports = Pattern.compile("import ([^;]*);").matcher(code);
         while (imports.find()) {
             Check.isTrue(imports.group(), List.of("java.util.Arrays", "java.util.ArrayList", "java.util.List")
