@@ -408,7 +408,7 @@ public final class HydrantRounds {
         return total;
     }
 
-    /** The round of a crew: the streets that it is to flush, in order. */
+    /** The round of a crew; it has another name as `round` is a call of the face. */
     private static final class Tour {
         private final int[] streets;
         private int length;
@@ -542,7 +542,7 @@ public final class HydrantRounds {
             return next < STREETS && sourceOf(next) == street ? next : NONE;
         }
 
-        /** The pressure at a street where open hydrants draw so much in each zone. */
+        // What is drawn in each zone is told by the caller: looks ask for hydrants that are not open.
         int pressureAt(int street, int[] drawn) {
             int zone = street / ZONE_STREETS;
             int lowest = zonePressure[zone] - street % ZONE_STREETS - drawn[zone];
@@ -550,6 +550,7 @@ public final class HydrantRounds {
                 int atLast = zonePressure[ahead] - (ZONE_STREETS - 1) - drawn[ahead];
                 lowest = atLast < lowest ? atLast : lowest;
             }
+            // Once is enough: where the pressure ahead is below 0, the lowest one is.
             return lowest < 0 ? 0 : lowest;
         }
 
@@ -580,7 +581,7 @@ public final class HydrantRounds {
             reasons = new int[CREWS];
         }
 
-        /** Lets hours pass, and returns the complaints in them. */
+        // Answers what complaints the hours brought: all that play them through ask for that.
         int playMany(State state, int hours) {
             int before = sum(state.complaints);
             for (int gone = 0; gone < hours; gone++) {
@@ -769,7 +770,7 @@ public final class HydrantRounds {
             return findError() == length && (place == BEHIND_ONE || place == BEHIND_STREET);
         }
 
-        /** Gives crews the rounds of a complete text. */
+        // Only a complete text comes here, so that each sign is known by its kind.
         void giveTo(State state) {
             int crew = 0;
             int street = 0;
